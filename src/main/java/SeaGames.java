@@ -262,6 +262,7 @@ public final class SeaGames {
         if (!isHand(hand) || !isHand(other) || !isTick(tick)) {
             return UNKNOWN;
         }
+        playTrulyTo(tick);
         thinkTo(hand, other, tick);
         return fog.size(play.h);
     }
@@ -270,6 +271,7 @@ public final class SeaGames {
         if (!isHand(hand) || !isHand(other) || !isTick(tick) || cell < 0 || cell >= play.w * play.h) {
             return UNKNOWN;
         }
+        playTrulyTo(tick);
         thinkTo(hand, other, tick);
         return fog.has(spotOf(cell, play.w)) ? 1 : 0;
     }
@@ -531,9 +533,8 @@ public final class SeaGames {
         return distance(truth.at(tick, hand), truth.at(tick, other)) <= play.rules[SIGHT];
     }
 
-    /** Leaves in the fog where the other hand could be, as far as the hand knows. */
+    /** Leaves in the fog where the other hand could be, as far as the hand knows; the true play is there. */
     private void thinkTo(int hand, int other, int tick) {
-        playTrulyTo(tick);
         board.start(play);
         fog.setOnly(board.now[other]);
         for (int t = 0; t <= tick; t++) {
@@ -649,11 +650,11 @@ public final class SeaGames {
         }
 
         int machinePress(int hand) {
-            int dx = xOf(now[BALL]) - xOf(now[hand]);
-            int dy = yOf(now[BALL]) - yOf(now[hand]);
-            if (Math.abs(dx) + Math.abs(dy) == 1) {
+            if (wayToBall(hand) > 0) {
                 return KICK;
             }
+            int dx = xOf(now[BALL]) - xOf(now[hand]);
+            int dy = yOf(now[BALL]) - yOf(now[hand]);
             if (Math.abs(dx) >= Math.abs(dy)) {
                 return dx > 0 ? 1 : 3;
             }
@@ -702,20 +703,21 @@ public final class SeaGames {
         }
 
         private void kick(Play play, int hand, int power) {
-            for (int way = 1; way <= 4; way++) {
-                if (now[hand] + STEP[way] == now[BALL]) {
-                    rollBall(play, way, power);
-                    return;
-                }
+            int way = wayToBall(hand);
+            boolean rolls = way > 0;
+            for (int i = 0; i < power && rolls; i++) {
+                rolls = moveBall(play, way);
             }
         }
 
-        private void rollBall(Play play, int way, int power) {
-            for (int i = 0; i < power; i++) {
-                if (!moveBall(play, way)) {
-                    return;
+        /** The way by which the ball is beside a hand; 0: it is not. */
+        private int wayToBall(int hand) {
+            for (int way = 1; way <= 4; way++) {
+                if (now[hand] + STEP[way] == now[BALL]) {
+                    return way;
                 }
             }
+            return 0;
         }
 
         private void spinBall(Play play, int tick) {
@@ -826,8 +828,8 @@ public final class SeaGames {
             if (glass == hand) {
                 return made;
             }
-            int wait = waitOf(glass, hand);
-            return made + (isLost(hand, tick) ? 3 * wait + 1 : wait);
+            int wait = waits[glass * MOST_HANDS + hand];
+            return made + (lostRow[hand * TICKS + tick] ? 3 * wait + 1 : wait);
         }
 
         boolean allKnown(int delay, int glass, int clock, int tick) {

@@ -282,6 +282,7 @@ public final class PromisesTest {
         due("then still none", tie.truly(1, 11), 0);
         tie.press(0, 1, 2);
         due("hand 0 is nearest", tie.truly(1, 10), 1);
+        due("hand 0 is nearest from then on", tie.truly(99, 10), 99);
         due("no tick, told first", x.truly(-1, 99), UNKNOWN);
         due("no tick", x.truly(100, 0), UNKNOWN);
         for (int what : new int[] {-1, 2, 5, 7, 9, 12, 15, LOW, HIGH}) {
@@ -290,6 +291,12 @@ public final class PromisesTest {
         x.field(5, 5, 6);
         due("hand 5", x.truly(0, 5), 5);
         due("points of 5", x.truly(99, 15), 0);
+        due("points of 4, which is nearest", x.truly(99, 14), 100);
+        x.field(3, 3, 6);
+        x.press(3, 0, 3);
+        due("hand 3 begins at the left edge", x.truly(0, 3), 3);
+        x.press(3, 0, 2);
+        due("hand 3 goes down", x.truly(0, 3), 6);
         due("none", x.truly(0, 16), BAD);
         spins();
         pushes();
@@ -302,6 +309,8 @@ public final class PromisesTest {
         x.rule(2, 2);
         all("spin 9, seed 2", new int[] {x.truly(7, 6), x.truly(8, 6), x.truly(16, 6), x.truly(17, 6), x.truly(26, 6),
             x.truly(35, 6), x.truly(44, 6)}, 24, 23, 23, 18, 19, 24, 23);
+        x.rule(2, 1);
+        due("another seed", x.truly(8, 6), 19);
         x.rule(1, 1);
         x.rule(2, 1);
         all("spin 1, seed 1: ways 4, 1, 2, 3, 4", new int[] {x.truly(0, 6), x.truly(1, 6), x.truly(2, 6),
@@ -414,6 +423,11 @@ public final class PromisesTest {
         due("first", x.lose(1, 99, true), 0);
         due("then", x.lose(1, 99, true), 1);
         due("once", x.count(4), 1);
+        due("the first of all", x.lose(0, 0, true), 0);
+        due("two", x.count(4), 2);
+        x.field(5, 5, 2);
+        due("gone", x.lose(0, 0, false), 0);
+        x.lose(1, 99, true);
         due("no more", x.lose(1, 99, false), 1);
         due("no more", x.lose(1, 99, false), 0);
         due("none", x.count(4), 0);
@@ -467,6 +481,11 @@ public final class PromisesTest {
         SeaGames x = threeGlasses();
         due("known now", x.takes(0, 4, 1, 2), 2);
         due("not yet", x.takes(0, 3, 1, 2), 0);
+        due("tick 0", x.takes(0, 9, 1, 0), 0);
+        x.press(1, 0, 3);
+        due("tick 0", x.takes(0, 2, 1, 0), 3);
+        due("guess from tick 0", x.takes(0, 2, 1, 2), 3);
+        x.press(1, 0, 0);
         due("guess", x.takes(0, 4, 1, 4), 2);
         due("guess from the newest", x.takes(0, 7, 1, 7), 0);
         due("guess from the newest", x.takes(0, 6, 1, 6), 2);
@@ -536,6 +555,11 @@ public final class PromisesTest {
         due("delay 4", x.back(0, 4), 0);
         x.leave(2, 0, 100);
         due("left: known always", x.back(0, 10), 0);
+        x.rule(3, 0);
+        x.press(0, 20, 5);
+        due("hand 0's press comes to glass 1", x.back(1, 22), 2);
+        due("hand 0's press comes to glass 2", x.back(2, 24), 4);
+        due("not to its own", x.back(0, 22), 0);
         due("no glass", x.back(3, 0), UNKNOWN);
         due("no glass", x.back(-1, 0), UNKNOWN);
         due("no clock", x.back(0, 100), UNKNOWN);
@@ -574,6 +598,7 @@ public final class PromisesTest {
         due("1 to 6", x.wrong(0, 99, false), 6);
         due("1 to 6", x.wrong(0, 99, true), 6);
         due("glass 1", x.wrong(1, 99, false), 0);
+        due("glass 1", x.wrong(1, 99, true), 0);
         x.press(1, 50, 1);
         due("50 to 52 too", x.wrong(0, 99, false), 9);
         due("the most together", x.wrong(0, 99, true), 6);
@@ -629,6 +654,12 @@ public final class PromisesTest {
         due("nothing yet", x.best(3), 0);
         x.rule(5, 0);
         due("all are like", x.best(99), 0);
+        x.rule(5, 1);
+        x.line(0, 2, 9);
+        due("nine", x.best(99), 9);
+        x.line(0, 2, 1);
+        x.line(0, 1, 1);
+        due("one", x.best(99), 1);
         due("no m", x.best(100), UNKNOWN);
         due("no m", x.best(-1), UNKNOWN);
     }
@@ -667,6 +698,12 @@ public final class PromisesTest {
         x.rule(6, 0);
         all("unseen", new int[] {x.could(0, 1, 0), x.could(0, 1, 1), x.could(0, 1, 2), x.could(0, 1, 99)}, 3, 6, 8, 8);
         due("the other one", x.could(1, 0, 0), 2);
+        x.field(9, 9, 2);
+        x.rule(6, 3);
+        x.hold(0, 0, 3, 2);
+        x.hold(1, 0, 6, 1);
+        all("7 + 5 + 3 + 1 behind tick 4", new int[] {x.could(0, 1, 0), x.could(0, 1, 1), x.could(0, 1, 2),
+            x.could(0, 1, 3), x.could(0, 1, 4)}, 1, 2, 6, 12, 16);
         due("no hand", x.could(2, 0, 0), UNKNOWN);
         due("no hand", x.could(0, 2, 0), UNKNOWN);
         due("no hand", x.could(-1, 0, 0), UNKNOWN);
@@ -809,6 +846,9 @@ public final class PromisesTest {
         share(60, 30, 30, 0, 1, 1);
         share(60, 30, 30, 30, 1, 118264581564861424L);
         share(60, 60, 0, 0, 1, 1);
+        share(60, 0, 60, 0, 1, 1);
+        share(60, 60, 60, 60, 1, 1);
+        share(60, 60, 59, 59, 1, 1);
         share(5, 4, 4, 3, 1, 1);
         share(5, 4, 4, 4, 1, 5);
         int[][] bad = {{0, 0, 0, 0}, {61, 0, 0, 0}, {5, -1, 0, 0}, {5, 6, 0, 0}, {5, 0, -1, 0}, {5, 0, 6, 0},
@@ -846,6 +886,7 @@ public final class PromisesTest {
         x.lose(0, 8, true);
         int ball = x.truly(60, 6);
         int points = x.truly(60, 12);
+        int cell = x.truly(9, 2);
         x.keep(1);
         x.press(2, 5, 1);
         due("what is kept stays", x.tried(1, 4, 60, 6), ball);
@@ -869,6 +910,12 @@ public final class PromisesTest {
                 4, 3, 77, 5);
         x.press(2, 5, 0);
         x.again(1);
+        x.again(1);
+        x.hold(2, 5, 9, 0);
+        due("it stands", x.truly(60, 2), 2);
+        x.again(1);
+        due("and so it is played", x.truly(9, 2), cell);
+        due("and so it is played", x.truly(60, 6), ball);
         due("as often as one likes", x.press(2, 5, 2), 2);
         due("no slot", x.again(4), UNKNOWN);
         due("no slot", x.again(-1), UNKNOWN);
