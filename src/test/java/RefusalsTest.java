@@ -101,7 +101,8 @@ public final class RefusalsTest {
                 call("hold", 3, 90, 99, 3), call("press", 3, 0, 1), call("leave", 3, 5, 40), call("leave", 2, 60, 100),
                 call("line", 0, 1, 3), call("line", 2, 0, 5), call("line", 3, 1, 9), call("line", 2, 3, 1),
                 call("lose", 0, 3, 1), call("lose", 1, 12, 1), call("lose", 2, 7, 1), call("lose", 3, 99, 1),
-                call("far", 0, 1, 30), call("far", 2, 2, 9), call("far", 3, 1, 200)));
+                call("far", 0, 1, 30), call("far", 2, 2, 9), call("far", 3, 1, 200),
+                call("far", 3, 0, 55)));
         for (int i = 0; i < 7; i++) {
             calls.add(call("player", i * i * 17 % 100, i % 4));
         }
@@ -120,6 +121,11 @@ public final class RefusalsTest {
             calls.add(call("leave", hand, 10 * hand + 20, 100));
             calls.add(call("lose", hand, 11 * hand, 1));
             calls.add(call("line", hand, (hand + 1) % 6, 9 - hand));
+        }
+        for (int a = 0; a < 4; a++) {
+            for (int b = 0; b <= a; b++) {
+                calls.add(call("far", a, b, 10 + 5 * a + b));
+            }
         }
         for (int i = 0; i < 10; i++) {
             calls.add(call("player", i * 37 % 50, i % 4));
